@@ -484,6 +484,13 @@ public final class PromiseTest {
         y.testify(0, 1, true, 1);
         y.testify(0, 0, true, 5);
         Check.due("33 all weigh 0", 1, () -> y.heaviestWitness(0));
+        y.addWitness(9);
+        y.addWitness(8);
+        y.charge(1, 0);
+        y.testify(1, 0, true, 5);
+        y.testify(1, 2, false, 1);
+        y.testify(1, 3, true, 1);
+        Check.due("33 the one in the middle", 2, () -> y.heaviestWitness(1));
     }
 
     private static void nextToDecide() {
@@ -675,7 +682,10 @@ public final class PromiseTest {
         Check.due("51 no cases", ARITHMETIC, x::guiltyShare);
         x.addWitness(0);
         Check.due("50 a mean of 0", 0.0, x::meanCredibility);
-        x.addWitness(9);
+        x.undo();
+        x.addWitness(1);
+        Check.due("50 one witness", 1.0, x::meanCredibility);
+        x.addWitness(8);
         Check.due("50 no rounding", 4.5, x::meanCredibility);
         x.addWitness(1);
         Check.due("50 in double", 10.0 / 3, x::meanCredibility);
@@ -807,6 +817,9 @@ public final class PromiseTest {
         }
         Check.due("57 case 15", 3, () -> run(y, "charge 3 0;witness 1;testify 15 0-1"));
         Check.due("57 case 15 heard", true, () -> y.hasTestified(15, 0));
+        Check.due("57 case 15 questioned", 2, () -> run(y, "question 15 0!;question 15 0?"));
+        Check.due("23 of case 15", 2, () -> y.questionCount(15, 0));
+        Check.due("5 of case 15, twice", STATE, () -> y.question(15, 0, true));
     }
 
     private static void runningAllOrNone() {
@@ -1062,14 +1075,19 @@ public final class PromiseTest {
         Check.due("64 the error position stays", 7, y::errorPosition);
         Check.due("64 the line stays", "w1=9", () -> lineOf(y, 4));
         CaseManager z = court();
+        z.testify(0, 2, false, 4);
+        String whole = stateOf(z);
         z.save();
-        for (int i = 0; i < 8; i++) {
+        for (int i = 0; i < 6; i++) {
             z.undo();
-            if (z.undoableCount() == 0) {
-                break;
-            }
         }
-        Check.due("64 from further back", 2, z::restore);
-        Check.due("64 witnesses too", 3, z::witnessCount);
+        z.charge(5, 2);
+        z.charge(4, 1);
+        z.addWitness(0);
+        z.testify(0, 0, true, 1);
+        z.question(0, 0, false);
+        z.addWitness(1);
+        Check.due("64 after another court in between", 2, z::restore);
+        Check.due("64 everything is as it was", whole, () -> stateOf(z));
     }
 }
