@@ -456,13 +456,18 @@ public final class CaseManager {
     private boolean executeProgram() {
         beforeRun.copyFrom(court);
         for (int index = 0; index < program.size; index++) {
-            Fault fault = program.execute(index, court);
+            int kind = program.kinds.get(index);
+            int first = program.firsts.get(index);
+            int second = program.seconds.get(index);
+            int strength = program.strengths.get(index);
+            Fault fault = court.faultOf(kind, first, second, strength);
             if (fault != Fault.NONE) {
                 court.copyFrom(beforeRun);
                 storedFailure = index;
                 isStoredFailureOfState = fault == Fault.STATE;
                 return false;
             }
+            court.perform(kind, first, second, program.flags.get(index) != 0, strength);
         }
         history.keep(beforeRun);
         return true;
@@ -837,7 +842,7 @@ public final class CaseManager {
         }
 
         boolean hasHeard(int caseNumber, int witness) {
-            return strengthOf(caseNumber, witness) > 0;
+            return strengths.get(cellOf(caseNumber, witness)) > 0;
         }
 
         int witnessHeardAt(int caseNumber, int position) {
@@ -851,6 +856,10 @@ public final class CaseManager {
 
         int strengthOf(int caseNumber, int witness) {
             return strengths.get(cellOf(caseNumber, witness));
+        }
+
+        int weightOf(int caseNumber, int witness) {
+            return strengths.get(cellOf(caseNumber, witness)) * credibilities.get(witness);
         }
 
         int questionsTo(int caseNumber, int witness) {
@@ -1052,16 +1061,12 @@ public final class CaseManager {
 
     /** The weights of the testimonies in a case, and what follows from them for its verdict. */
     private static final class Weights {
-        static int ofWitness(Court court, int caseNumber, int witness) {
-            return court.strengthOf(caseNumber, witness) * court.credibilities.get(witness);
-        }
-
         static int ofSide(Court court, int caseNumber, int side) {
             int sum = 0;
             for (int position = 0; position < court.testimonies.get(caseNumber); position++) {
                 int witness = court.witnessHeardAt(caseNumber, position);
                 if (court.sideOf(caseNumber, witness) == side) {
-                    sum += ofWitness(court, caseNumber, witness);
+                    sum += court.weightOf(caseNumber, witness);
                 }
             }
             return sum;
@@ -1071,7 +1076,7 @@ public final class CaseManager {
             int margin = -2 * court.severityIn(caseNumber);
             for (int position = 0; position < court.testimonies.get(caseNumber); position++) {
                 int witness = court.witnessHeardAt(caseNumber, position);
-                margin += court.sideOf(caseNumber, witness) * ofWitness(court, caseNumber, witness);
+                margin += court.sideOf(caseNumber, witness) * court.weightOf(caseNumber, witness);
             }
             return margin;
         }
@@ -1099,7 +1104,7 @@ public final class CaseManager {
             int heaviest = court.witnessHeardAt(caseNumber, 0);
             for (int position = 1; position < court.testimonies.get(caseNumber); position++) {
                 int witness = court.witnessHeardAt(caseNumber, position);
-                if (ofWitness(court, caseNumber, witness) > ofWitness(court, caseNumber, heaviest)) {
+                if (court.weightOf(caseNumber, witness) > court.weightOf(caseNumber, heaviest)) {
                     heaviest = witness;
                 }
             }
@@ -1213,9 +1218,12 @@ public final class CaseManager {
             position = 0;
             size = 0;
             for (int round = 0; round <= INPUT_LIMIT; round++) {
-                if (!readCommand()) {
+                int kind = readKeyword();
+                if (kind == NOTHING || !readArguments(kind)) {
                     return false;
                 }
+                kinds.put(size, kind);
+                size++;
                 if (position == input.length()) {
                     return true;
                 }
@@ -1224,28 +1232,6 @@ public final class CaseManager {
                 }
             }
             return false;
-        }
-
-        Fault execute(int index, Court court) {
-            int kind = kinds.get(index);
-            int first = firsts.get(index);
-            int second = seconds.get(index);
-            int strength = strengths.get(index);
-            Fault fault = court.faultOf(kind, first, second, strength);
-            if (fault == Fault.NONE) {
-                court.perform(kind, first, second, flags.get(index) != 0, strength);
-            }
-            return fault;
-        }
-
-        private boolean readCommand() {
-            int kind = readKeyword();
-            if (kind == NOTHING || !readArguments(kind)) {
-                return false;
-            }
-            kinds.put(size, kind);
-            size++;
-            return true;
         }
 
         /** Takes the keyword that the input follows furthest, so that a wrong letter is found where none goes on. */
