@@ -9,8 +9,14 @@ final class Check {
 
     private static int wrong = 0;
     private static int looked = 0;
+    private static String subject = "";
 
     private Check() {
+    }
+
+    /** What the answers that follow are about; it is told with each that is not as due. */
+    static void about(String what) {
+        subject = what + ": ";
     }
 
     /** The call is due to answer want; a class of exceptions as want means that the call throws exactly that one. */
@@ -19,7 +25,7 @@ final class Check {
         Object got = answerOf(call);
         if (!Objects.equals(got, want)) {
             wrong++;
-            System.out.println(what + ": answered " + got + ", due is " + want);
+            System.out.println(subject + what + ": answered " + got + ", due is " + want);
         }
     }
 
@@ -36,6 +42,10 @@ final class Check {
 
     static int wrongSoFar() {
         return wrong;
+    }
+
+    static int lookedSoFar() {
+        return looked;
     }
 
     static void end() {

@@ -1,13 +1,5 @@
-import java.util.NoSuchElementException;
-
 /** At least one test for each promise of the document: ordinary inputs, the edges it names, and wrong inputs. */
-public final class PromiseTest {
-    private static final Class<?> INDEX = IndexOutOfBoundsException.class;
-    private static final Class<?> ARGUMENT = IllegalArgumentException.class;
-    private static final Class<?> ELEMENT = NoSuchElementException.class;
-    private static final Class<?> STATE = IllegalStateException.class;
-    private static final Class<?> UNSUPPORTED = UnsupportedOperationException.class;
-    private static final Class<?> ARITHMETIC = ArithmeticException.class;
+public final class PromiseTest extends Courts {
     private static final int[] BAD = {Integer.MIN_VALUE, -1, 16, Integer.MAX_VALUE};
 
     public static void main(String[] arguments) {
@@ -42,37 +34,6 @@ public final class PromiseTest {
         undoingEverything();
         savingAndRestoring();
         Check.end();
-    }
-
-    /** Two cases (0: defendant 1, offence 4; 1: defendant 2, offence 0) and witnesses of credibility 5, 9 and 3. */
-    private static CaseManager court() {
-        CaseManager x = new CaseManager();
-        x.charge(1, 4);
-        x.charge(2, 0);
-        x.addWitness(5);
-        x.addWitness(9);
-        x.addWitness(3);
-        return x;
-    }
-
-    private static void type(CaseManager x, String text) {
-        for (char c : text.toCharArray()) {
-            x.append(c);
-        }
-    }
-
-    private static Object run(CaseManager x, String text) {
-        type(x, text);
-        return Check.answerOf(x::run);
-    }
-
-    private static String lineOf(CaseManager x, int length) {
-        StringBuilder text = new StringBuilder();
-        for (int i = 0; i < length; i++) {
-            text.append(x.lineChar(i));
-        }
-        Check.due("55 lineChar behind the line", INDEX, () -> x.lineChar(length));
-        return text.toString();
     }
 
     private static void newObject() {
