@@ -10,7 +10,7 @@ final class CaseBounds extends Courts {
             x.charge(i % 6, i % 5);
             Check.due("cases", i + 1, x::caseCount);
         }
-        Check.answerOf(() -> x.charge(5, 0));
+        Check.answerOf(() -> x.charge(1, 0));
         Check.due("no more by a refused charge", 16, x::caseCount);
         x.addWitness(9);
         x.testify(0, 0, true, 5);
@@ -54,6 +54,24 @@ final class CaseBounds extends Courts {
         Check.due("it was undone", ELEMENT, () -> x.caseOf(1, 4));
         CaseManager full = courtOf(16);
         Check.due("none of sixteen", ELEMENT, () -> full.caseOf(3, 1));
+    }
+
+    @Boundary(promise = 11, says = "Returns the defendant of a case.")
+    static void defendantsOfFirstAndLastCase() {
+        CaseManager x = courtOf(15);
+        x.charge(5, 4);
+        Check.due("the first", 0, () -> x.defendantOf(0));
+        Check.due("the one before the last", 2, () -> x.defendantOf(14));
+        Check.due("the last", 5, () -> x.defendantOf(15));
+    }
+
+    @Boundary(promise = 12, says = "Returns the offence of a case.")
+    static void offencesOfFirstAndLastCase() {
+        CaseManager x = courtOf(15);
+        x.charge(5, 3);
+        Check.due("the first", 0, () -> x.offenceOf(0));
+        Check.due("the one before the last", 4, () -> x.offenceOf(14));
+        Check.due("the last", 3, () -> x.offenceOf(15));
     }
 
     @Boundary(promise = 11, says = "Throws `IndexOutOfBoundsException` if there is no such case")
@@ -250,6 +268,36 @@ final class CaseBounds extends Courts {
         x.decide(15);
         x.close(15);
         Check.due("in a closed case too", true, () -> x.hasTestified(15, 7));
+    }
+
+    /** Each of eight witnesses testifies in case 0 or 1, and in case 14 or 15 on the other side. */
+    private static CaseManager heardAtTheCorners() {
+        CaseManager x = eightWitnesses();
+        for (int witness = 0; witness < 8; witness++) {
+            x.testify(witness / 4, witness, witness % 3 == 0, 1 + witness % 5);
+            x.testify(15 - witness / 4, witness, witness % 3 != 0, 5 - witness % 5);
+        }
+        return x;
+    }
+
+    @Boundary(promise = 21, says = "Returns true if it is, false if it is for the defence.")
+    static void sidesAtTheCorners() {
+        CaseManager x = heardAtTheCorners();
+        for (int i = 0; i < 8; i++) {
+            int witness = i;
+            Check.due("one of the first cases, " + i, i % 3 == 0, () -> x.isForProsecution(witness / 4, witness));
+            Check.due("one of the last cases, " + i, i % 3 != 0, () -> x.isForProsecution(15 - witness / 4, witness));
+        }
+    }
+
+    @Boundary(promise = 22, says = "Returns the strength of the testimony of a witness.")
+    static void strengthsAtTheCorners() {
+        CaseManager x = heardAtTheCorners();
+        for (int i = 0; i < 8; i++) {
+            int witness = i;
+            Check.due("one of the first cases, " + i, 1 + i % 5, () -> x.strength(witness / 4, witness));
+            Check.due("one of the last cases, " + i, 5 - i % 5, () -> x.strength(15 - witness / 4, witness));
+        }
     }
 
     @Boundary(promise = 21, says = "Throws `IndexOutOfBoundsException` if there is no such case or witness")

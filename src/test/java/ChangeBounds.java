@@ -19,11 +19,11 @@ final class ChangeBounds extends Courts {
     @Boundary(promise = 1, says = "Creates a court without cases and witnesses; all sentences are 0.")
     static void eachCourtIsItsOwn() {
         CaseManager busy = courtInAllPhases();
-        type(busy, "witness 1");
         busy.formatWitness(0);
         busy.save();
         run(busy, "x");
         run(busy, "charge 9 9");
+        type(busy, "witness 1");
         CaseManager x = new CaseManager();
         Check.due("no cases", 0, x::caseCount);
         Check.due("no witnesses", 0, x::witnessCount);

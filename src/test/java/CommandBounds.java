@@ -2,6 +2,8 @@
 final class CommandBounds extends Courts {
     private static final String DIGITS = "0123456789";
     private static final String KEYWORDS_BEGIN = "cwtqda";
+    private static final String SIX_WITNESSES = "witness 1;witness 2;witness 3;witness 4;witness 5;witness 6";
+    private static final String SIX_CLOSED = "close 0;close 1;close 2;close 3;close 4;close 5";
     private static final Integer NONE = -1;
 
     /** The error position of a text, or NONE if it is a valid program. */
@@ -45,8 +47,7 @@ final class CommandBounds extends Courts {
         Check.due("the last is read too", 59, x::errorPosition);
         Check.due("60 characters are run", 6, () -> run(courtOf(0), "witness 1;witness 2;witness 3;witness 4;"
             + "witness 5;charge 0 0"));
-        Check.due("59 characters are run", 6, () -> run(courtOf(0), "witness 1;witness 2;witness 3;witness 4;"
-            + "witness 5;witness 6"));
+        Check.due("59 characters are run", 6, () -> run(courtOf(0), SIX_WITNESSES));
     }
 
     @Boundary(promise = 57, says = "A program in the input buffer has this grammar, where { x } means zero or more "
@@ -54,9 +55,9 @@ final class CommandBounds extends Courts {
     static void oneCommandOrMore() {
         Check.due("one command", 1, () -> run(courtOf(0), "witness 0"));
         Check.due("two commands", 2, () -> run(courtOf(0), "witness 0;witness 1"));
-        Check.due("six commands", 6, () -> run(courtOf(0), "witness 0;witness 1;witness 2;witness 3;witness 4;witness 5"));
+        Check.due("six commands", 6, () -> run(courtOf(0), SIX_WITNESSES));
         CaseManager x = sevenDecidedCases();
-        Check.due("seven, the most that fit", 7, () -> run(x, "close 0;close 1;close 2;close 3;close 4;close 5;close 6"));
+        Check.due("seven, the most that fit", 7, () -> run(x, SIX_CLOSED + ";close 6"));
         Check.due("each was executed", 7, x::closedCount);
         error("", 0);
         error(";", 0);
@@ -301,8 +302,9 @@ final class CommandBounds extends Courts {
     @Boundary(promise = 57, says = "Either all commands are executed or none.")
     static void allOrNone() {
         String[] failing = {"witness 1;witness 1;decide 0;decide 0", "charge 4 4;question 0 0!;appeal 1;close 1",
-            "testify 0 1+1;charge 0 0", "close 1;close 1", "appeal 1;close 1", "question 0 3?;question 0 3?;question 0 3?",
-            "charge 5 0;charge 5 0", "witness 1;testify 0 4+1;testify 3 0+1", "decide 0;appeal 0;decide 0;charge 9 0"};
+            "testify 0 1+1;charge 0 0", "close 1;close 1", "appeal 1;close 1",
+            "question 0 3?;question 0 3?;question 0 3?", "charge 5 0;charge 5 0",
+            "witness 1;testify 0 4+1;testify 3 0+1", "decide 0;appeal 0;decide 0;charge 9 0"};
         for (String program : failing) {
             CaseManager x = courtInAllPhases();
             String before = everything(x);
@@ -348,7 +350,7 @@ final class CommandBounds extends Courts {
             Check.due("\"" + text + "\"", want, () -> run(courtOf(0), text));
             program = program + ";witness 1";
         }
-        Check.due("seven", 7, () -> run(sevenDecidedCases(), "close 6;close 5;close 4;close 3;close 2;close 1;close 0"));
+        Check.due("seven", 7, () -> run(sevenDecidedCases(), "close 6;" + SIX_CLOSED));
     }
 
     @Boundary(promise = {57, 58}, says = "Throws `IllegalArgumentException` if the program is malformed; the error "
@@ -380,7 +382,7 @@ final class CommandBounds extends Courts {
             Check.due("\"" + program + "\" is well formed", ELEMENT, x::errorPosition);
         }
         CaseManager x = sevenDecidedCases();
-        Check.due("the last of seven", UNSUPPORTED, () -> run(x, "close 0;close 1;close 2;close 3;close 4;close 5;close 5"));
+        Check.due("the last of seven", UNSUPPORTED, () -> run(x, SIX_CLOSED + ";close 5"));
         Check.due("the last of seven", 6, x::failedCommand);
     }
 

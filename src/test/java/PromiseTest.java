@@ -900,6 +900,13 @@ public final class PromiseTest extends Courts {
         failure(x, "testify 0 1+0", 0, false);
         failure(x, "testify 0 1+6", 0, false);
         failure(x, "testify 0 0+5", 0, true);
+        failuresOfMore();
+    }
+
+    /** On a court of its own, since an object is used for 512 calls at the most. */
+    private static void failuresOfMore() {
+        CaseManager x = court();
+        x.testify(0, 0, true, 1);
         failure(x, "question 0 1!", 0, false);
         failure(x, "question 1 0!", 0, false);
         failure(x, "question 0 9!", 0, false);

@@ -13,7 +13,7 @@ final class TermsBounds extends Courts {
         Check.due("call 512", true, () -> x.decide(0));
     }
 
-    @Boundary(promise = {2, 10, 40}, says = "Defendants are numbered from 0 to 5, offences from 0 to 4.")
+    @Boundary(promise = {2, 10, 11, 12, 40}, says = "Defendants are numbered from 0 to 5, offences from 0 to 4.")
     static void everyDefendantAndOffence() {
         for (int d = 0; d <= 5; d++) {
             int defendant = d;
@@ -122,12 +122,32 @@ final class TermsBounds extends Courts {
         Check.due("decide", STATE, () -> x.decide(2));
         Check.due("appeal", STATE, () -> x.appeal(2));
         Check.due("close", STATE, () -> x.close(2));
-        x.close(1);
-        x.testify(0, 1, true, 1);
-        x.question(0, 1, false);
-        x.question(0, 1, false);
-        Check.due("guilty, though the margin fell", true, () -> x.isGuilty(1));
-        Check.due("not guilty", false, () -> x.isGuilty(2));
+    }
+
+    @Boundary(promise = {16, 40, 47}, says = "A closed case has a final verdict.")
+    static void verdictsStayThoughMarginsMove() {
+        CaseManager x = courtOf(3, 4, 2);
+        x.testify(0, 0, true, 1);
+        x.testify(1, 1, true, 2);
+        x.testify(2, 0, true, 1);
+        x.testify(2, 1, true, 1);
+        x.decide(0);
+        x.decide(1);
+        for (int closed = 0; closed <= 2; closed++) {
+            Check.due("guilty", true, () -> x.isGuilty(0));
+            Check.due("not guilty", false, () -> x.isGuilty(1));
+            Check.due("one guilty case", 1, x::guiltyCount);
+            Check.due("the sentence", 1, () -> x.sentence(0));
+            Check.due("the sentence", 1, () -> x.sentenceByCases(0));
+            if (closed == 0) {
+                x.question(2, 0, false);
+                x.question(2, 1, true);
+                Check.due("a margin of 0", 0, () -> x.margin(0));
+                Check.due("a margin of 2", 2, () -> x.margin(1));
+            } else {
+                x.close(closed - 1);
+            }
+        }
     }
 
     @Boundary(promise = 2, says = "A defendant cannot be charged with an offence if there already is a case for this "

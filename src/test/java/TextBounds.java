@@ -34,8 +34,8 @@ final class TextBounds extends Courts {
         caseLine(x, 3, "3:1/4g. +0*5 -2*1");
     }
 
-    @Boundary(promise = 53, says = "and \"o\" if the case is open, \"g\" if its verdict is guilty or \"n\" if it is not "
-        + "guilty, followed by \".\" if the case is closed")
+    @Boundary(promise = 53, says = "and \"o\" if the case is open, \"g\" if its verdict is guilty or \"n\" if it is "
+        + "not guilty, followed by \".\" if the case is closed")
     static void signsOfThePhases() {
         CaseManager x = courtOf(3, 9);
         caseLine(x, 0, "0:0/0o");
@@ -57,8 +57,8 @@ final class TextBounds extends Courts {
         caseLine(x, 0, "0:0/0g. +0*5");
     }
 
-    @Boundary(promise = 53, says = "for each testimony in the order in which the witnesses testified, a blank, \"+\" for "
-        + "the prosecution or \"-\" for the defence, the witness, \"*\" and the strength.")
+    @Boundary(promise = 53, says = "for each testimony in the order in which the witnesses testified, a blank, \"+\" "
+        + "for the prosecution or \"-\" for the defence, the witness, \"*\" and the strength.")
     static void noneToSixTestimonies() {
         CaseManager x = eightWitnesses();
         caseLine(x, 9, "9:1/4o");

@@ -1,7 +1,7 @@
 /** The sentences of promises 61 to 64, and on changes in the terms, that name a boundary case. */
 final class UndoBounds extends Courts {
-    @Boundary(promise = {61, 62}, says = "The calls of the methods to which commands correspond, and of run, that return "
-        + "normally are changes, even if they have no effect.")
+    @Boundary(promise = {61, 62}, says = "The calls of the methods to which commands correspond, and of run, that "
+        + "return normally are changes, even if they have no effect.")
     static void allKindsOfChanges() {
         CaseManager x = new CaseManager();
         x.charge(0, 0);
@@ -120,8 +120,8 @@ final class UndoBounds extends Courts {
         Check.due("cases", 4, x::caseCount);
     }
 
-    @Boundary(promise = 62, says = "Undo does not affect the input buffer, the error position, the failed command and its "
-        + "cause, the formatted line, or the saved copy.")
+    @Boundary(promise = 62, says = "Undo does not affect the input buffer, the error position, the failed command and "
+        + "its cause, the formatted line, or the saved copy.")
     static void whatUndoLeaves() {
         CaseManager x = courtOf(1, 9);
         run(x, "charge 1 1;x");
@@ -198,29 +198,23 @@ final class UndoBounds extends Courts {
     }
 
     @Boundary(promise = 62, says = "Undoes the latest change that has not been undone.")
-    static void everyKindIsUndone() {
-        CaseManager x = courtInAllPhases();
-        undone(x, "charge 4 4");
-        undone(x, "witness 6");
-        undone(x, "testify 0 1+5");
-        undone(x, "question 0 0!");
-        undone(x, "decide 0");
-        CaseManager y = courtInAllPhases();
-        undone(y, "appeal 1");
-        undone(y, "close 1");
-        undone(y, "charge 4 4;witness 6;testify 3 4-2;question 3 4?;decide 3");
+    static void programsAreUndone() {
+        String[] programs = {"charge 4 4", "witness 6", "testify 0 1+5", "question 0 0!", "decide 0", "appeal 1",
+            "close 1", "charge 4 4;witness 6;testify 3 4-2;question 3 4?;decide 3"};
+        for (String program : programs) {
+            undone(courtInAllPhases(), program);
+        }
     }
 
-    /** By a program, which is a change as a whole. */
     private static void undone(CaseManager x, String program) {
         String before = everyNumber(x);
-        isNot("run of \"" + program + "\"", ARGUMENT, () -> run(x, program));
+        run(x, program);
         Check.due("\"" + program + "\" has an effect", false, () -> everyNumber(x).equals(before));
         x.undo();
         Check.due("undo of \"" + program + "\"", before, () -> everyNumber(x));
     }
 
-    /** Less than everything, so that several such readings of one court stay within 512 calls. */
+    /** Less than everything, so that three readings of one court stay within 512 calls. */
     private static String everyNumber(CaseManager x) {
         StringBuilder text = new StringBuilder();
         for (int i = 0; i < x.caseCount(); i++) {
@@ -295,11 +289,33 @@ final class UndoBounds extends Courts {
         CaseManager x = courtInAllPhases();
         String before = everything(x);
         x.save();
-        run(x, "appeal 1;testify 1 0-5;question 1 1!;decide 1;decide 0");
+        run(x, "appeal 1;testify 1 0-5;question 1 1?;decide 1;decide 0");
         x.charge(5, 4);
         x.addWitness(7);
         x.testify(3, 4, true, 3);
         Check.due("restored", 3, x::restore);
+        Check.due("everything", before, () -> everything(x));
+    }
+
+    @Boundary(promise = {63, 64}, says = "Saves a copy of everything that changes can change")
+    static void restoredOverAnotherCourt() {
+        CaseManager x = courtOf(1, 5, 8, 3);
+        x.testify(0, 2, false, 4);
+        x.testify(0, 1, true, 2);
+        String before = everything(x);
+        x.save();
+        for (int i = 0; i < 6; i++) {
+            x.undo();
+        }
+        Check.due("nothing is left", 0, x::caseCount);
+        x.charge(5, 4);
+        x.charge(4, 3);
+        x.addWitness(9);
+        x.addWitness(0);
+        x.testify(0, 0, true, 5);
+        x.testify(0, 1, false, 5);
+        x.question(0, 0, false);
+        Check.due("restored", 1, x::restore);
         Check.due("everything", before, () -> everything(x));
     }
 

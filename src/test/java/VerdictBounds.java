@@ -150,6 +150,8 @@ final class VerdictBounds extends Courts {
         x.testify(1, 2, false, 1);
         Check.due("credibility 9 stays 9", ELEMENT, () -> x.firmAnswersToGuilty(1, 1));
         Check.due("of the defence, not guilty now", ELEMENT, () -> x.firmAnswersToGuilty(1, 2));
+        x.testify(2, 0, false, 5);
+        Check.due("of the defence, with nine answers left", ELEMENT, () -> x.firmAnswersToGuilty(2, 0));
     }
 
     @Boundary(promise = 39, says = "if nothing else happened and the number of questions was not limited.")

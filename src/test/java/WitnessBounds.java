@@ -16,6 +16,19 @@ final class WitnessBounds extends Courts {
         Check.due("one was undone", 7, x::witnessCount);
     }
 
+    @Boundary(promise = 25, says = "Returns the credibility of a witness.")
+    static void credibilitiesOfFirstAndLastWitness() {
+        CaseManager x = eightWitnesses();
+        Check.due("the first", 0, () -> x.credibility(0));
+        Check.due("the second", 9, () -> x.credibility(1));
+        Check.due("the one before the last", 6, () -> x.credibility(6));
+        Check.due("the last", 5, () -> x.credibility(7));
+        x.testify(15, 7, true, 1);
+        x.question(15, 7, false);
+        Check.due("the last after a question", 3, () -> x.credibility(7));
+        Check.due("the one before the last", 6, () -> x.credibility(6));
+    }
+
     @Boundary(promise = 25, says = "Throws `IndexOutOfBoundsException` if there is no such witness")
     static void credibilityOfNoSuch() {
         noSuchWitness(CaseManager::credibility);
@@ -70,8 +83,8 @@ final class WitnessBounds extends Courts {
         }
     }
 
-    @Boundary(promise = 27, says = "greater credibility first, then more cases in which the witness has testified, then "
-        + "lower numbers.")
+    @Boundary(promise = 27, says = "greater credibility first, then more cases in which the witness has testified, "
+        + "then lower numbers.")
     static void tiesOfCredibility() {
         CaseManager x = courtOf(3, 5, 5, 5, 5, 6);
         ranks(x, 4, 0, 1, 2, 3);
@@ -99,8 +112,8 @@ final class WitnessBounds extends Courts {
         noSuchWitness((x, both) -> call.answer(x, both, both));
     }
 
-    @Boundary(promise = 28, says = "Returns the number of cases in which two witnesses have testified for the same side, "
-        + "minus the number of cases in which they have testified for different sides.")
+    @Boundary(promise = 28, says = "Returns the number of cases in which two witnesses have testified for the same "
+        + "side, minus the number of cases in which they have testified for different sides.")
     static void agreementsFromMinus16To16() {
         CaseManager same = courtOf(16, 5, 5);
         CaseManager different = courtOf(16, 5, 5);
@@ -132,7 +145,8 @@ final class WitnessBounds extends Courts {
         Check.due("agreement " + other + " " + one, want, () -> x.agreement(other, one));
     }
 
-    @Boundary(promise = 28, says = "for one and the same witness the number of cases in which the witness has testified.")
+    @Boundary(promise = 28, says = "for one and the same witness the number of cases in which the witness has "
+        + "testified.")
     static void agreementWithOneself() {
         CaseManager x = courtOf(16, 5);
         for (int i = 0; i < 16; i++) {
